@@ -13,7 +13,9 @@ public final class AccountsTest {
         promise33();
         promise34();
         promise34AllChanges();
+        promise34EachCall();
         promise35And36();
+        promise35And36OtherKettles();
         CHECK.end("AccountsTest");
     }
 
@@ -157,6 +159,38 @@ public final class AccountsTest {
         CHECK.due("undo of off and set", all(guild), before);
     }
 
+    private static void promise34EachCall() {
+        for (int call = 0; call < 9; call++) {
+            KettleGuild guild = Check.guild("own 0 1;own 1 4;kettle 0 1 9;kettle 1 4 1;kettle 0 1 4", "heat 0 5;set 0 0;appeal 1 0;minute 4");
+            String before = all(guild);
+            holds(change(guild, call) >= 0, "the call " + call + " goes well");
+            CHECK.due("changes behind the call " + call, guild.account(12), 3);
+            holds(!all(guild).equals(before), "the call " + call + " makes something different");
+            CHECK.due("undo of the call " + call, guild.undo(), 2);
+            CHECK.due("undone call " + call, all(guild), before);
+        }
+    }
+
+    private static int change(KettleGuild guild, int call) {
+        switch (call) {
+            case 0: return guild.own(2, 5);
+            case 1: return guild.kettle(1, 4, 7);
+            case 2: return guild.set(1, 3);
+            case 3: return guild.off(0);
+            case 4: return guild.heat(0, 2);
+            case 5: return guild.fill(2, 3);
+            case 6: return guild.lid(2, 0);
+            case 7: return guild.appeal(2, 0);
+            default: return guild.minute(2);
+        }
+    }
+
+    private static void holds(boolean isSo, String what) {
+        if (!isSo) {
+            CHECK.fault("not so: " + what);
+        }
+    }
+
     /** All that changes can change, but for how many can be undone. */
     private static String all(KettleGuild guild) {
         StringBuilder all = new StringBuilder();
@@ -216,5 +250,17 @@ public final class AccountsTest {
         guild.undo();
         CHECK.due("undo leaves the snapshot", guild.restore(), 3);
         CHECK.due("minutes of the snapshot", guild.account(5), 5);
+    }
+
+    private static void promise35And36OtherKettles() {
+        KettleGuild guild = Check.guild("own 0 1;own 1 4", "kettle 1 4 3");
+        guild.save();
+        String saved = all(guild);
+        guild.undo();
+        guild.kettle(0, 1, 5);
+        CHECK.tells(guild, 0, "0:0p1w5t20");
+        guild.restore();
+        CHECK.tells(guild, 0, "0:1p4w3t20");
+        CHECK.due("restored", all(guild), saved);
     }
 }

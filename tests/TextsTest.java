@@ -228,11 +228,15 @@ public final class TextsTest {
         CHECK.tells(guild, 2, "2:1p7w0t95x6");
         guild.lid(2, 0);
         CHECK.tells(guild, 2, "2:1p7w0t95_x6");
+        guild.minute(5);
+        CHECK.tells(guild, 2, "2:1p7w0t70_x1");
+        guild.minute(1);
+        CHECK.tells(guild, 2, "2:1p7w0t65_");
         CHECK.due("tell(3)", guild.tell(3), NONE);
         for (int far : FAR) {
             CHECK.due("tell(" + far + ")", guild.tell(far), NONE);
         }
-        CHECK.due("a code leaves the line", Check.line(guild), "2:1p7w0t95_x6");
+        CHECK.due("a code leaves the line", Check.line(guild), "2:1p7w0t65_");
     }
 
     private static void promise27() {

@@ -747,7 +747,6 @@ public final class KettleGuild {
 
         State() {
             Arrays.fill(owners, NO_ONE);
-            Arrays.fill(stoves, NO_ONE);
         }
 
         void copyFrom(State other) {
