@@ -289,7 +289,7 @@ public final class KettleGuild {
     public int run() {
         int fault = orders.read();
         orders.empty();
-        if (fault != NO_ONE) {
+        if (fault != Orders.NO_FAULT) {
             return FAULT_BASE - fault;
         }
         history.begin(now);
@@ -1056,6 +1056,8 @@ public final class KettleGuild {
         /** The shortest order, with its ";", is "off 0;": no text holds more of them than this. */
         private static final int MOST_ORDERS = MOST_CHARACTERS / 6 + 1;
         private static final int MOST_NUMBERS = 3;
+        private static final int NO_FAULT = -1;
+        private static final int NO_NUMBER = -1;
 
         private final char[] text = new char[MOST_CHARACTERS];
         private final int[] kinds = new int[MOST_ORDERS];
@@ -1079,15 +1081,15 @@ public final class KettleGuild {
         }
 
         int kindOf(int order) {
-            return order >= 0 && order < count ? kinds[order] : NO_ONE;
+            return order >= 0 && order < count ? kinds[order] : NO_NUMBER;
         }
 
         int numberOf(int order, int index) {
             boolean isThere = order >= 0 && order < count && index >= 0 && index < MOST_NUMBERS;
-            return isThere ? numbers[order * MOST_NUMBERS + index] : NO_ONE;
+            return isThere ? numbers[order * MOST_NUMBERS + index] : NO_NUMBER;
         }
 
-        /** Answers the fault position, NO_ONE if there is no fault. */
+        /** Answers the fault position, or NO_FAULT. */
         int read() {
             count = 0;
             place = 0;
@@ -1097,7 +1099,7 @@ public final class KettleGuild {
                 }
                 count++;
                 if (place == length) {
-                    return NO_ONE;
+                    return NO_FAULT;
                 }
                 if (!isAtPlace(';')) {
                     return place;
@@ -1160,7 +1162,7 @@ public final class KettleGuild {
         private int readNumber(char sign) {
             int number = sign == PLUS_OR_MINUS ? signAtPlace() : digitAtPlace();
             if (number < 0) {
-                return NO_ONE;
+                return NO_NUMBER;
             }
             place++;
             int digit = digitAtPlace();
@@ -1177,17 +1179,17 @@ public final class KettleGuild {
 
         private int digitAtPlace() {
             if (place < 0 || place >= length) {
-                return NO_ONE;
+                return NO_NUMBER;
             }
             char sign = text[place];
-            return sign >= '0' && sign <= '9' ? sign - '0' : NO_ONE;
+            return sign >= '0' && sign <= '9' ? sign - '0' : NO_NUMBER;
         }
 
         private int signAtPlace() {
             if (isAtPlace('+')) {
                 return 1;
             }
-            return isAtPlace('-') ? 0 : NO_ONE;
+            return isAtPlace('-') ? 0 : NO_NUMBER;
         }
     }
 }
