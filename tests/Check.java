@@ -1,36 +1,86 @@
+import java.util.function.IntUnaryOperator;
+
 /** What the tests of this project share: told answers, counted faults. Has no main, so .ci/run does not run it. */
 final class Check {
-    private static final int MOST_TOLD = 30;
+    /** Of one thing that is checked, so that each is told that has a fault. */
+    private static final int MOST_TOLD = 5;
+    private String about = "";
+    private int made;
+    private int told;
     private int wrong;
 
+    /** What is checked from here on, told with each fault. */
+    void about(String what) {
+        about = what + ": ";
+        made = 0;
+        told = 0;
+    }
+
+    /** How many answers were looked at since it was told what they are about. */
+    int made() {
+        return made;
+    }
+
+    int wrong() {
+        return wrong;
+    }
+
     void due(String call, long got, long want) {
+        made++;
         if (got != want) {
             fault(call + " answered " + got + ", due is " + want);
         }
     }
 
     void due(String call, double got, double want) {
+        made++;
         if (Double.compare(got, want) != 0) {
             fault(call + " answered " + got + ", due is " + want);
         }
     }
 
     void due(String call, String got, String want) {
+        made++;
         if (!got.equals(want)) {
             fault(call + " answered \"" + got + "\", due is \"" + want + "\"");
         }
     }
 
-    void fault(String text) {
-        wrong++;
-        if (wrong <= MOST_TOLD) {
-            System.out.println(text);
+    void holds(String what, boolean isSo) {
+        made++;
+        if (!isSo) {
+            fault("not so: " + what);
         }
     }
 
+    void fault(String text) {
+        wrong++;
+        told++;
+        if (told <= MOST_TOLD) {
+            System.out.println(about + text);
+        }
+    }
+
+    /** The same answer for each of the numbers; in the name of the call "?" stands for the number. */
+    void each(String call, long want, IntUnaryOperator numbered, int... numbers) {
+        for (int number : numbers) {
+            due(call.replace("?", "" + number), numbered.applyAsInt(number), want);
+        }
+    }
+
+    /** The numbers beside a range, far from it, and those that a narrower or an added number would wrap into it. */
+    static int[] outside(int least, int most) {
+        return new int[] {least - 1, most + 1, -1000, 1000, 256 + least, 256 + most, (1 << 16) + least, (1 << 16) + most,
+            Integer.MIN_VALUE, Integer.MIN_VALUE + most, Integer.MAX_VALUE - most, Integer.MAX_VALUE};
+    }
+
     /** The latest call was refused; the chain holds the reasons with their details, from the front. */
-    void refused(String call, KettleGuild guild, int got, int... chain) {
+    void refused(String call, Guild guild, int got, int... chain) {
         due(call, got, KettleGuild.REFUSED);
+        reasons(call, guild, chain);
+    }
+
+    void reasons(String call, Guild guild, int... chain) {
         for (int depth = 0; depth < 3; depth++) {
             boolean isThere = 2 * depth < chain.length;
             due(call + ", reason(" + depth + ", false)", guild.reason(depth, false), isThere ? chain[2 * depth] : KettleGuild.NOTHING);
@@ -38,44 +88,43 @@ final class Check {
         }
     }
 
-    void runs(KettleGuild guild, String text, int want) {
-        due("run of \"" + text + "\"", run(guild, text), want);
+    void runs(Guild guild, String text, int want) {
+        due("run of \"" + text + "\"", guild.run(text), want);
     }
 
-    static int run(KettleGuild guild, String text) {
-        for (int index = 0; index < text.length(); index++) {
-            guild.append(text.charAt(index));
-        }
-        return guild.run();
+    /** The text is refused in one of its orders; the chain holds the reasons with their details, from the front. */
+    void refusesText(Guild guild, String text, int... chain) {
+        refused("run of \"" + text + "\"", guild, guild.run(text), chain);
     }
 
-    /** A guild in which texts were run that must all go well. */
-    static KettleGuild guild(String... texts) {
-        KettleGuild guild = new KettleGuild();
-        for (String text : texts) {
-            if (run(guild, text) < 1) {
-                throw new IllegalArgumentException("does not run: " + text);
-            }
-        }
-        return guild;
-    }
-
-    static String line(KettleGuild guild) {
-        StringBuilder line = new StringBuilder();
-        for (int index = 0; guild.character(index) != KettleGuild.NONE; index++) {
-            line.append((char) guild.character(index));
-        }
-        return line.toString();
-    }
-
-    void tells(KettleGuild guild, int kettle, String want) {
+    void tells(Guild guild, int kettle, String want) {
         due("tell(" + kettle + ")", guild.tell(kettle), want.length());
-        due("line of tell(" + kettle + ")", line(guild), want);
+        due("line of tell(" + kettle + ")", guild.line(), want);
     }
 
-    void tellsStoves(KettleGuild guild, String want) {
+    void tellsStoves(Guild guild, String want) {
         due("tellStoves()", guild.tellStoves(), want.length());
-        due("line of tellStoves()", line(guild), want);
+        due("line of tellStoves()", guild.line(), want);
+    }
+
+    /** The numbers that kettleOf tells of a kettle, from 0 on. */
+    void kettle(String when, Guild guild, int kettle, int... numbers) {
+        for (int what = 0; what < numbers.length; what++) {
+            due(when + ", kettleOf(" + kettle + ", " + what + ")", guild.kettleOf(kettle, what), numbers[what]);
+        }
+    }
+
+    /** The numbers that memberOf tells of a member, from 0 on. */
+    void member(String when, Guild guild, int member, int... numbers) {
+        for (int what = 0; what < numbers.length; what++) {
+            due(when + ", memberOf(" + member + ", " + what + ")", guild.memberOf(member, what), numbers[what]);
+        }
+    }
+
+    void points(String when, Guild guild, int... points) {
+        for (int member = 0; member < points.length; member++) {
+            due(when + ", memberOf(" + member + ", 0)", guild.memberOf(member, 0), points[member]);
+        }
     }
 
     void end(String test) {

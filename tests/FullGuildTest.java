@@ -3,15 +3,15 @@ public final class FullGuildTest {
     private static final Check CHECK = new Check();
 
     public static void main(String[] args) {
-        KettleGuild guild = full();
+        Guild guild = full();
         counts(guild);
         changes(guild);
         CHECK.end("FullGuildTest");
     }
 
     /** Each member owns three pitches; the kettles 4 to 9 whistle on the stoves 0 to 5. */
-    private static KettleGuild full() {
-        KettleGuild guild = new KettleGuild();
+    private static Guild full() {
+        Guild guild = new Guild();
         for (int pitch = 1; pitch <= 12; pitch++) {
             CHECK.due("own", guild.own(pitch % 4, pitch), (pitch - 1) / 4 + 1);
         }
@@ -26,7 +26,7 @@ public final class FullGuildTest {
         return guild;
     }
 
-    private static void counts(KettleGuild guild) {
+    private static void counts(Guild guild) {
         CHECK.due("whistling", guild.whistling(), 0x3f0);
         CHECK.due("harmony", guild.harmony(), -3);
         CHECK.due("harmonyAgain", guild.harmonyAgain(), -3);
@@ -50,7 +50,7 @@ public final class FullGuildTest {
         CHECK.tellsStoves(guild, "5(4)5(5)5(6)5(7)5(8)5(9)");
     }
 
-    private static void changes(KettleGuild guild) {
+    private static void changes(Guild guild) {
         CHECK.refused("kettle", guild, guild.kettle(0, 12, 1), 1, 10);
         CHECK.refused("set on a taken stove", guild, guild.set(3, 5), 4, 3, 6, 9);
         CHECK.due("off", guild.off(9), 5);

@@ -16,11 +16,15 @@ import java.util.regex.Pattern;
 /** Those rules of LANGUAGE.md that the source or the compiled class shows. */
 public final class LanguageTest {
     private static final String SOURCE = "src/main/java/KettleGuild.java";
-    private static final String[] NOT_IN_CODE = {"->", "::", "\\bpackage\\b", "\\bprotected\\b", "\\btry\\b", "\\bcatch\\b",
-        "\\bfinally\\b", "\\bthrows?\\b", "\\bsynchronized\\b", "\\bassert\\b", "\\bstatic\\s*\\{", "\\bvar\\b", "\\bObject\\b",
-        "Exact\\b", "_VALUE\\b", "\\bNaN\\b", "\\bSystem\\.(?!arraycopy)", "\\bvolatile\\b",
-        "\\bnative\\b", "\\bequals\\b", "\\bhashCode\\b", "\\btoString\\b", "\\bMath\\.(?!max\\b|min\\b|abs\\b)",
-        "\\bInteger\\.(?!bitCount\\b|compare\\b)", "\\bArrays\\.(?!fill\\b|copyOf)"};
+    private static final String[] NOT_IN_CODE = {"(?m)^(?!\\s*(case|default)\\b).*->", "::", "\\bpackage\\b", "\\bprotected\\b",
+        "\\bfinally\\b", "\\bsynchronized\\b", "\\bassert\\b", "\\bstatic\\s*\\{", "\\bObject\\b", "Exact\\b", "_VALUE\\b",
+        "\\bNaN\\b", "\\bSystem\\.(?!arraycopy)", "\\bvolatile\\b", "\\bnative\\b", "\\bhashCode\\b", "\\bgetMessage\\b",
+        "\\bcatch\\s*\\([^)]*\\b(Throwable|Exception|Error|NullPointer\\w+|ArrayIndex\\w+|StringIndex\\w+|ClassCast\\w+|NegativeArray\\w+|ArrayStore\\w+)\\b",
+        "\\bthrow (?!new (IllegalState|IllegalArgument|IndexOutOfBounds|Arithmetic|UnsupportedOperation|NoSuchElement|Runtime)Exception\\()",
+        "\\bArrays\\.(?!fill\\b|copyOf)", "\\b(Math|Integer|Long)\\.(?!max\\b|min\\b|abs\\b|bitCount\\b|compare\\b|floorDiv\\b|floorMod\\b|signum\\b|sum\\b)"};
+    /** The types of constants, beside those of enums. */
+    private static final Set<Class<?>> PLAIN = Set.of(int.class, long.class, boolean.class, char.class, String.class,
+        int[].class, long[].class, char[].class, byte[].class);
     private static final Check CHECK = new Check();
 
     public static void main(String[] args) throws IOException {
@@ -36,7 +40,7 @@ public final class LanguageTest {
         List<Class<?>> classes = new ArrayList<>(Arrays.asList(KettleGuild.class.getDeclaredClasses()));
         for (Class<?> inside : classes) {
             boolean isHidden = !Modifier.isPublic(inside.getModifiers()) && !Modifier.isProtected(inside.getModifiers());
-            holds(isHidden && Modifier.isStatic(inside.getModifiers()), inside + " is private or package-visible, and static");
+            holds(isHidden, inside + " is private or package-visible");
         }
         classes.add(KettleGuild.class);
         holds(classes.size() <= 12, "at most twelve classes");
@@ -48,9 +52,7 @@ public final class LanguageTest {
     }
 
     private static void holds(boolean isSo, String rule) {
-        if (!isSo) {
-            CHECK.fault("broken: " + rule);
-        }
+        CHECK.holds(rule, isSo);
     }
 
     private static String withoutComments(String source) {
@@ -75,10 +77,10 @@ public final class LanguageTest {
             Matcher head = Pattern.compile("( {4}| {8})(public|private|static|[a-z]\\w*).*\\) \\{").matcher(lines[first]);
             if (head.matches()) {
                 int last = first;
-                while (!lines[last].equals(head.group(1) + "}")) {
+                while (last < lines.length && !lines[last].equals(head.group(1) + "}")) {
                     last++;
                 }
-                holds(last - first <= 60, "a short method: " + lines[first]);
+                holds(last - first <= 60 || last == lines.length, "a short method: " + lines[first]);
             }
         }
     }
@@ -88,10 +90,10 @@ public final class LanguageTest {
         for (Field field : one.getDeclaredFields()) {
             if (!Modifier.isStatic(field.getModifiers())) {
                 fields++;
-            } else {
+            } else if (!field.isSynthetic() && !field.isEnumConstant()) {
                 Class<?> type = field.getType();
-                boolean isPlain = Set.of(int.class, long.class, boolean.class, char.class, String.class, int[].class, long[].class, char[].class, byte[].class).contains(type);
-                holds(Modifier.isFinal(field.getModifiers()) && isPlain, "a constant: " + field);
+                boolean isValues = type.isArray() && type.getComponentType().isEnum();
+                holds(Modifier.isFinal(field.getModifiers()) && (isValues || PLAIN.contains(type)), "a constant: " + field);
             }
         }
         holds(fields <= 20, "at most twenty fields: " + one);
@@ -105,9 +107,9 @@ public final class LanguageTest {
             }
         }
         for (Method method : one.getDeclaredMethods()) {
-            boolean isFace = Modifier.isPublic(method.getModifiers()) && one == KettleGuild.class;
             holds(method.getParameterCount() <= 7, "at most seven parameters: " + method);
-            holds(isFace || !names.contains(method.getName()), "no name of the face: " + method);
+            holds(one.isRecord() || !Set.of("equals", "hashCode", "toString").contains(method.getName()), "no " + method);
+            holds(!Modifier.isPrivate(method.getModifiers()) || !names.contains(method.getName()), "no name of the face: " + method);
         }
     }
 }

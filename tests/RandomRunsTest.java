@@ -1,27 +1,31 @@
 /** Long runs of calls, always the same ones, each answer against GuildModel. */
 public final class RandomRunsTest {
     private static final int RUNS = 3000;
-    private static final int CALLS = 512;
+    /** The most calls of one step, a text that is written and run. */
+    private static final int MOST_OF_A_STEP = 64;
+    private static final int MOST_OF_A_QUESTION = 3;
     private static final int[] FAR = {Integer.MIN_VALUE, Integer.MAX_VALUE, -1, -2, 100, 1 << 16, 1 << 31 | 3};
     private static final String[] WORDS = {"own", "kettle", "set", "off", "heat", "fill", "lid", "appeal", "minute"};
     private static final Check CHECK = new Check();
     private static long seed = 20;
 
-    private static KettleGuild guild;
+    private static Guild guild;
     private static GuildModel model;
     private static int run;
-    private static int call;
 
     public static void main(String[] args) {
         for (run = 0; run < RUNS; run++) {
-            guild = new KettleGuild();
+            guild = new Guild();
             model = new GuildModel();
-            for (call = 0; call < CALLS; call++) {
+            while (guild.calls() + MOST_OF_A_STEP <= Guild.MOST_CALLS) {
                 if (any(3) == 0) {
                     ask();
                 } else {
                     change();
                 }
+            }
+            while (guild.calls() + MOST_OF_A_QUESTION <= Guild.MOST_CALLS) {
+                ask();
             }
         }
         CHECK.end("RandomRunsTest");
@@ -46,7 +50,7 @@ public final class RandomRunsTest {
     }
 
     private static void due(String name, long got, long want) {
-        CHECK.due("run " + run + ", call " + call + ": " + name, got, want);
+        CHECK.due("run " + run + ", call " + guild.calls() + ": " + name, got, want);
     }
 
     private static int someKettle() {
