@@ -4,10 +4,27 @@ import java.util.function.IntUnaryOperator;
 final class Check {
     /** Of one thing that is checked, so that each is told that has a fault. */
     private static final int MOST_TOLD = 5;
+    /** Some hundred times what a test needs. */
+    private static final int MOST_SECONDS = 300;
     private String about = "";
     private int made;
     private int told;
     private int wrong;
+
+    /** Fails the test by itself if a call does not end, which would let it run for ever. */
+    static void mustEnd(String test) {
+        Thread watch = new Thread(() -> {
+            try {
+                Thread.sleep(MOST_SECONDS * 1000L);
+            } catch (InterruptedException interrupted) {
+                return;
+            }
+            System.out.println(test + ": a call has not ended within " + MOST_SECONDS + " seconds");
+            Runtime.getRuntime().halt(1);
+        });
+        watch.setDaemon(true);
+        watch.start();
+    }
 
     /** What is checked from here on, told with each fault. */
     void about(String what) {

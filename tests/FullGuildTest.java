@@ -3,6 +3,7 @@ public final class FullGuildTest {
     private static final Check CHECK = new Check();
 
     public static void main(String[] args) {
+        Check.mustEnd("FullGuildTest");
         Guild guild = full();
         counts(guild);
         changes(guild);

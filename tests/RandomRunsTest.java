@@ -14,6 +14,7 @@ public final class RandomRunsTest {
     private static int run;
 
     public static void main(String[] args) {
+        Check.mustEnd("RandomRunsTest");
         for (run = 0; run < RUNS; run++) {
             guild = new Guild();
             model = new GuildModel();

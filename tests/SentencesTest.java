@@ -18,6 +18,7 @@ public final class SentencesTest {
     }
 
     public static void main(String[] args) throws IOException {
+        Check.mustEnd("SentencesTest");
         Check check = new Check();
         for (Method test : tests()) {
             run(check, test);
