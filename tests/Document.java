@@ -32,6 +32,11 @@ final class Document {
         return text.replaceAll("\\s+", " ").trim();
     }
 
+    /** What stands below a heading, in one line. */
+    String section(String heading) {
+        return sections.getOrDefault(heading, "");
+    }
+
     /** Takes down that a test stands for these words; answers whether they stand below the heading. */
     boolean test(String heading, String words) {
         String text = sections.getOrDefault(heading, "");

@@ -11,7 +11,7 @@ import java.util.List;
 /** Runs the tests that stand for sentences of the document, and tells which sentences have none. */
 public final class SentencesTest {
     private static final Path DOCUMENT = Paths.get("../shared/DOC.md");
-    private static final Class<?>[] TESTS = {KettleSentences.class, StoveSentences.class, MinuteSentences.class, OrderSentences.class,
+    static final Class<?>[] TESTS = {KettleSentences.class, StoveSentences.class, MinuteSentences.class, OrderSentences.class,
         TextSentences.class, ReasonSentences.class, StateSentences.class};
 
     private SentencesTest() {
